@@ -32,7 +32,6 @@ public final class FaultBench {
     private static final int ANSWER = 1;
 
     private static final int PROMISES = 4;
-    private static final int MOST_ITEMS = 8;
     private static final int MOST_FAULTS = 10;
     private static final int MOST_AMOUNT = 20;
     private static final int MOST_SENT = 120;
@@ -314,13 +313,14 @@ public final class FaultBench {
         }
         remember();
         present.keepPart(part);
-        for (int k = 0; k < present.faultCount(); k++) {
+        int remaining = present.faultCount();
+        for (int k = 0; k < remaining; k++) {
             int amount = findLeastAmount(k, promise);
             if (amount != NONE) {
                 present.changeAmount(k, amount);
             }
         }
-        return present.faultCount();
+        return remaining;
     }
 
     public int record() {

@@ -45,6 +45,15 @@ public final class RunTest {
         // 0 in 2 and 3; 1 in 2; 2 in 3.
         Check.delivers("ties", z, 0, 1, 0, 2);
         Check.results("ties", z, 4, 3, 4, 3, 0, 0, 4, 6);
+        // All are sent before the first one arrives: 0 in 4 and 5, 1 in 4, 2 in 5.
+        FaultBench v = Check.bench("bench plain 3 30;latency 3;late 0 1;twice 0;");
+        Check.delivers("ties before", v, 0, 1, 0, 2);
+        // 0 in 3, 1 in 5 and 6, 2 in 5, 3 in 6.
+        FaultBench w = Check.bench("bench plain 4 30;latency 3;late 1 1;twice 1;");
+        Check.delivers("more ties", w, 0, 1, 2, 1, 3);
+        // 0 to 3 in 8: by ascending transmissions, in whatever order they were sent late.
+        FaultBench u = Check.bench("bench plain 4 30;latency 5;late 0 3;late 1 2;late 2 1;twice 2;");
+        Check.delivers("all in one tick", u, 0, 1, 2, 3, 2);
     }
 
     private static void plainEnds() {
@@ -120,6 +129,11 @@ public final class RunTest {
         Check.sent("first answer", z, 1, 1, 1, 0, 2, -1);
         Check.sent("second answer", z, 2, 2, 1, 0, 3, -1);
         Check.sent("item 1", z, 3, 2, 0, 1, 3, -1);
+        // The second answer of 0 comes when the sender is done, and 2 has the sign 0: it is ignored.
+        z.addFault(2, 2, 5);
+        Check.results("done", z, 9, 5, 2, 3, 0, 3, 5, 0);
+        Check.due("done", () -> z.reaches(2, 2), true);
+        Check.due("done", () -> z.reaches(3, 2), false);
     }
 
     private static void window() {
@@ -204,6 +218,15 @@ public final class RunTest {
         Check.due("beyond the budget", () -> y.result(7), 8);
         Check.due("in time", () -> y.breaks(3), true);
         Check.due("no loss", () -> y.breaks(0), false);
+        // Nothing of one run stays for the next.
+        FaultBench v = Check.bench("bench alternate 3 20;");
+        Check.due("answers", () -> v.result(5), 3);
+        Check.due("a state", () -> v.reaches(0, 1), true);
+        v.set(0, 0);
+        v.set(1, 1);
+        Check.results("nothing stays", v, 2, 1, 1, 1, 0, 0, 2, 0);
+        Check.delivers("nothing stays", v, 0);
+        states("nothing stays", v, new int[][] {{1, 0}, {1, 1}});
         // Each item first: item 0 comes twice, which does not matter for the time.
         FaultBench z = Check.bench("bench plain 1 10;budget 1;twice 0;");
         Check.due("double", () -> z.result(7), 2);

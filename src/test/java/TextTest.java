@@ -101,6 +101,17 @@ public final class TextTest {
         Check.refuses("bench ", 1, 6);
         Check.refuses("benc plain 1 10;", 1, 0);
         Check.refuses("benchh plain 1 10;", 1, 0);
+        Check.refuses("zench plain 1 10;", 1, 0);
+        Check.refuses("bench zlain 1 10;", 1, 6);
+        Check.refuses("bench blternate 1 10;", 1, 6);
+        Check.refuses("bench windop 1 10;", 1, 6);
+        Check.refuses("bench plain 1 10;zatency 1;", 1, 17);
+        Check.refuses("bench plain 1 10;zimer 1;", 1, 17);
+        Check.refuses("bench plain 1 10;zize 1 2;", 1, 17);
+        Check.refuses("bench plain 1 10;zudget 1;", 1, 17);
+        Check.refuses("bench plain 1 10;zrop 1;", 1, 17);
+        Check.refuses("bench plain 1 10;zwice 1;", 1, 17);
+        Check.refuses("bench plain 1 10;zate 1 1;", 1, 17);
         Check.refuses(";bench plain 1 10;", 1, 0);
         Check.refuses("bench bench 1 10;", 1, 6);
         Check.refuses("bench 1 10;", 1, 6);
@@ -137,6 +148,8 @@ public final class TextTest {
         Check.refuses("bench plain 1 10;timer 1;timer", 2, 25);
         Check.refuses("bench plain 1 10;size 1 2;drop 1;size 1 2;", 2, 33);
         Check.refuses("bench plain 1 10;budget 1;budget 999;", 2, 26);
+        Check.refuses("bench plain 1 10;timer 1;latency 1;size 1 2;budget 1;timer 1;", 2, 53);
+        Check.refuses("bench plain 1 10;latency 1;timer 1;size 1 2;budget 1;latency 1;", 2, 53);
         Check.refuses("bench plain 1 10;drop 1;drop 1;", 2, 29);
         Check.refuses("bench plain 1 10;drop 1;drop 001;", 2, 29);
         Check.refuses("bench plain 1 10;drop 1;drop 1", 2, 29);

@@ -135,6 +135,14 @@ public final class WouldBeTest {
         FaultBench y = Check.bench("bench plain 8 200;budget 27;latency 5;");
         attack("drop is first", y, 3, 0, 0, 0);
         attack("late by 2", y, 2, 2, 0, 2);
+        // The latest one: item 0 goes again in 17, item 1 arrives in 20, the late item 0 in 1 + 20.
+        z.set(4, 17);
+        attack("late by 20", z, 1, 2, 0, 20);
+        z.set(4, 18);
+        attack("not late enough", z, 1, -1, -1, -1);
+        // Late by 1: the answer misses the timer, item 0 goes again, and its sign is that of r = 2.
+        FaultBench v = Check.bench("bench window 2 13;latency 2;timer 4;size 3 2;");
+        attack("late by 1", v, 1, 2, 0, 1);
         // window 1 with a modulus of 8: a twin never is taken for another, and a lost one comes again in time.
         FaultBench w = Check.bench("bench window 2 100;size 1 8;timer 20;budget 23;");
         attack("window", w, 1, -1, -1, -1);
@@ -185,6 +193,12 @@ public final class WouldBeTest {
         w.set(7, 7);
         Check.due("just in time", () -> w.timerFor(3), 1);
         Check.due("any of them", () -> w.timerFor(0), 1);
+        // The answers come late or not at all: with each timer below 20 item 0 goes again and arrives by the tick
+        // 24, when its sign is that of r = 2.
+        FaultBench u = Check.bench("bench window 2 25;latency 5;timer 5;size 2 2;late 2 11;drop 3;");
+        Check.due("the greatest", () -> u.timerFor(1), 20);
+        u.set(2, 26);
+        Check.due("none of them", () -> u.timerFor(1), -1);
     }
 
     /** The least timer, by setting one after the other. */
