@@ -2,12 +2,20 @@
 final class Check {
     private static int wrong = 0;
     private static int looked = 0;
+    private static int sentences = 0;
+    private static String sentence = "";
 
     private Check() {
     }
 
     interface Call {
         Object run();
+    }
+
+    /** Names the sentence of the document that asks for the answers behind it. */
+    static void sentence(String words) {
+        sentence = words;
+        sentences++;
     }
 
     /** Compares an answer, or the exception's simple name, with the one that is due. */
@@ -22,6 +30,9 @@ final class Check {
         if (!got.equals(want)) {
             wrong++;
             System.out.println(what + " answered " + got + ", due is " + want);
+            if (!sentence.isEmpty()) {
+                System.out.println("    as the document says: " + sentence);
+            }
         }
     }
 
@@ -99,6 +110,22 @@ final class Check {
         }
     }
 
+    /** The pairs are those that the run reaches, and no other. */
+    static void states(String what, FaultBench x, int[]... want) {
+        due(what + " result(6)", () -> x.result(6), want.length);
+        for (int sender = 0; sender < 9; sender++) {
+            for (int received = 0; received < 16; received++) {
+                boolean due = false;
+                for (int[] pair : want) {
+                    due = due || pair[0] == sender && pair[1] == received;
+                }
+                int s = sender;
+                int r = received;
+                due(what + " reaches(" + s + ", " + r + ")", () -> x.reaches(s, r), due);
+            }
+        }
+    }
+
     static void faults(String what, FaultBench x, int[]... want) {
         due(what + " size(8)", () -> x.size(8), want.length);
         for (int k = 0; k < want.length; k++) {
@@ -110,12 +137,18 @@ final class Check {
         }
     }
 
+    /** A state: the sender's number, and how many were delivered. */
+    static int[] s(int sender, int received) {
+        return new int[] {sender, received};
+    }
+
     static int[] f(int kind, int number, int amount) {
         return new int[] {kind, number, amount};
     }
 
     static void finish(String test) {
-        System.out.println(test + ": " + looked + " answers, " + wrong + " wrong");
+        String named = sentences > 0 ? ", for " + sentences + " sentences" : "";
+        System.out.println(test + ": " + looked + " answers, " + wrong + " wrong" + named);
         if (wrong > 0 || looked == 0) {
             System.exit(1);
         }

@@ -23,7 +23,7 @@ public final class RunTest {
         Check.delivers("plain", x, 0, 1, 2);
         Check.sent("plain", x, 0, 0, 0, 0, 3, -1);
         Check.sent("plain", x, 2, 2, 0, 2, 5, -1);
-        states("plain", x, new int[][] {{1, 0}, {2, 0}, {3, 0}, {3, 1}, {3, 2}, {3, 3}});
+        Check.states("plain", x, new int[][] {{1, 0}, {2, 0}, {3, 0}, {3, 1}, {3, 2}, {3, 3}});
     }
 
     private static void plainWithFaults() {
@@ -85,7 +85,7 @@ public final class RunTest {
         Check.sent("data 2", x, 4, 4, 0, 2, 5, -1);
         Check.sent("answer 2", x, 5, 5, 1, 0, 6, -1);
         Check.sent("no more", x, 6, -1);
-        states("alternate", x, new int[][] {{0, 0}, {0, 1}, {1, 1}, {1, 2}, {2, 2}, {2, 3}, {3, 3}});
+        Check.states("alternate", x, new int[][] {{0, 0}, {0, 1}, {1, 1}, {1, 2}, {2, 2}, {2, 3}, {3, 3}});
     }
 
     private static void alternateWithTimer() {
@@ -143,7 +143,7 @@ public final class RunTest {
         Check.sent("data 1", x, 2, 1, 0, 1, 2, -1);
         Check.sent("answer 1", x, 1, 1, 1, 1, 2, -1);
         Check.sent("answer 4", x, 7, 4, 1, 0, 5, -1);
-        states("window", x, new int[][] {{0, 0}, {0, 1}, {1, 2}, {2, 3}, {3, 4}, {4, 4}});
+        Check.states("window", x, new int[][] {{0, 0}, {0, 1}, {1, 2}, {2, 3}, {3, 4}, {4, 4}});
         // One packet a tick, and no more than the window: 0 and 1, then the answers come in 6 and 7.
         FaultBench y = Check.bench("bench window 3 30;latency 3;");
         Check.results("slow", y, 13, 6, 3, 9, 0, 3, 7, 0);
@@ -226,7 +226,7 @@ public final class RunTest {
         v.set(1, 1);
         Check.results("nothing stays", v, 2, 1, 1, 1, 0, 0, 2, 0);
         Check.delivers("nothing stays", v, 0);
-        states("nothing stays", v, new int[][] {{1, 0}, {1, 1}});
+        Check.states("nothing stays", v, new int[][] {{1, 0}, {1, 1}});
         // Each item first: item 0 comes twice, which does not matter for the time.
         FaultBench z = Check.bench("bench plain 1 10;budget 1;twice 0;");
         Check.due("double", () -> z.result(7), 2);
@@ -257,19 +257,5 @@ public final class RunTest {
             Check.due("reaches " + pair[0] + " " + pair[1], () -> x.reaches(pair[0], pair[1]), false);
         }
         Check.due("size(9) behind questions", () -> x.size(9), 0);
-    }
-
-    private static void states(String what, FaultBench x, int[][] want) {
-        for (int sender = 0; sender < 9; sender++) {
-            for (int received = 0; received < 16; received++) {
-                boolean due = false;
-                for (int[] pair : want) {
-                    due = due || pair[0] == sender && pair[1] == received;
-                }
-                int s = sender;
-                int r = received;
-                Check.due(what + " reaches(" + s + ", " + r + ")", () -> x.reaches(s, r), due);
-            }
-        }
     }
 }
