@@ -1,6 +1,6 @@
 /**
  * The boundary cases of THE LINE, A RUN, PROMISES, STATES and of the promises 7 to 11: a test of its own for each
- * sentence that names one. The runs were traced by hand.
+ * sentence that names one.
  */
 public final class RunBoundaryTest {
     private static final int LEAST = Integer.MIN_VALUE;
