@@ -229,7 +229,11 @@ public final class FaultBench {
         if (part < 0 || part > 2) {
             throw new IllegalArgumentException("part is not 0 to 2");
         }
-        return findAttack(promise) ? trial.faultPart(0, part) : NONE;
+        if (breaksWithoutFaults(promise)) {
+            return NONE;
+        }
+        // A fault of a transmission that the run without faults never sends changes nothing.
+        return findAttack(promise, run.line().sentCount()) ? trial.faultPart(0, part) : NONE;
     }
 
     public int weakPoints(int promise) throws IllegalArgumentException {
@@ -452,13 +456,8 @@ public final class FaultBench {
         return NONE;
     }
 
-    /** Leaves the fault that was found in trial, as its only one. */
-    private boolean findAttack(int promise) {
-        if (breaksWithoutFaults(promise)) {
-            return false;
-        }
-        // A fault of a transmission that the run without faults never sends changes nothing.
-        int sentCount = run.line().sentCount();
+    /** Leaves the fault that was found in trial, as its only one; trial has no faults before. */
+    private boolean findAttack(int promise, int sentCount) {
         for (int number = 0; number < sentCount; number++) {
             for (int kind = DROP; kind <= LATE; kind++) {
                 int least = kind == LATE ? 1 : 0;
@@ -957,7 +956,10 @@ public final class FaultBench {
             int ticks = played.setting(TICKS);
             for (int tick = 0; tick < ticks; tick++) {
                 handleArrivals(tick);
-                takeSendersTurn(tick);
+                int item = takeSendersTurn(tick);
+                if (item != NONE) {
+                    line.send(bench, tick, DATA, item);
+                }
                 states.put(base, Math.min(deliveries.howMany(), MOST_RECEIVED));
                 tickCount++;
                 if (base >= items && line.isEmpty()) {
@@ -1023,15 +1025,13 @@ public final class FaultBench {
         }
 
         private void receiveAnswer(int sign, int tick) {
-            if (protocol == WINDOW) {
-                acknowledge(sign, tick);
-            } else if (base < items && sign == signOf(base)) {
-                base++;
-                isSent = false;
+            if (protocol != WINDOW) {
+                if (base < items && sign == signOf(base)) {
+                    base++;
+                    isSent = false;
+                }
+                return;
             }
-        }
-
-        private void acknowledge(int sign, int tick) {
             for (int number = base + 1; number <= next; number++) {
                 if (signOf(number) == sign) {
                     base = number;
@@ -1041,43 +1041,48 @@ public final class FaultBench {
             }
         }
 
-        private void takeSendersTurn(int tick) {
+        /** Returns the item that the sender sends in this tick, or NONE. */
+        private int takeSendersTurn(int tick) {
             switch (protocol) {
                 case ALTERNATE:
-                    sendPresentItem(tick);
-                    break;
+                    return takePresentItem(tick);
                 case WINDOW:
-                    sendInWindow(tick);
-                    break;
+                    return takeItemInWindow(tick);
                 default:
-                    if (base < items) {
-                        line.send(bench, tick, DATA, base);
-                        base++;
-                    }
-                    break;
+                    return takeNextItem();
             }
         }
 
-        private void sendPresentItem(int tick) {
-            if (base < items && (!isSent || tick - timerStart >= timer)) {
-                line.send(bench, tick, DATA, base);
-                isSent = true;
-                timerStart = tick;
+        private int takeNextItem() {
+            if (base >= items) {
+                return NONE;
             }
+            base++;
+            return base - 1;
         }
 
-        private void sendInWindow(int tick) {
+        private int takePresentItem(int tick) {
+            if (base >= items || isSent && tick - timerStart < timer) {
+                return NONE;
+            }
+            isSent = true;
+            timerStart = tick;
+            return base;
+        }
+
+        private int takeItemInWindow(int tick) {
             if (base < next && tick - timerStart >= timer) {
                 timerStart = tick;
                 next = base;
             }
-            if (next < base + window && next < items) {
-                if (base == next) {
-                    timerStart = tick;
-                }
-                line.send(bench, tick, DATA, next);
-                next++;
+            if (next >= base + window || next >= items) {
+                return NONE;
             }
+            if (base == next) {
+                timerStart = tick;
+            }
+            next++;
+            return next - 1;
         }
     }
 
